@@ -1057,10 +1057,11 @@ public final class CommutingWords {
                 return NOTHING;
             }
             int grown = prefix + weight[letter];
-            if (grown < 0 || grown >= size || grown >= PREFIX_ROOM || !places.take(letter)) {
+            int place = places.nextPlace(letter);
+            if (place == NOTHING || grown < 0 || grown >= size || grown >= PREFIX_ROOM) {
                 return NOTHING;
             }
-            takenAt[grown] = places.taken;
+            takenAt[grown] = places.taken | 1 << place;
             return grown;
         }
 
@@ -1199,6 +1200,7 @@ public final class CommutingWords {
         };
 
         private final int[] kind = new int[NODE_ROOM];
+        // For a letter, left is its number.
         private final int[] left = new int[NODE_ROOM];
         private final int[] right = new int[NODE_ROOM];
         private final int[] least = new int[NODE_ROOM];

@@ -394,6 +394,9 @@ public final class PromiseTest {
         dueWord(3, "");
         due("commonPrefix(0, 0, 0)", x.commonPrefix(0, 0, 0), 4);
         dueWord(0, "acbd");
+        put(4, "cacadbcacadbcaca");
+        due("commonPrefix(4, 4, 5)", x.commonPrefix(4, 4, 5), 16);
+        dueWord(5, "aaccbdaaccbdaacc");
 
         promise = 24;
         put(0, "dba");
@@ -727,6 +730,8 @@ public final class PromiseTest {
         put(3, "ea");
         x.setStates(2);
         x.setArrow(0, 4, 1);
+        x.setArrow(0, 0, 1);
+        x.setArrow(1, 4, 0);
         x.setAccepting(1, true);
         due("save(-1)", x.save(-1), BAD_INDEX);
         due("save(2)", x.save(2), BAD_INDEX);
@@ -745,6 +750,8 @@ public final class PromiseTest {
             dueWord(3, "ea");
             due("independent(4)", x.independent(4), 1);
             due("setArrow(0, 4, 0)", x.setArrow(0, 4, 0), 1);
+            due("setArrow(0, 0, 0)", x.setArrow(0, 0, 0), 1);
+            due("setArrow(1, 4, 1)", x.setArrow(1, 4, 1), 0);
             due("setAccepting(1, false)", x.setAccepting(1, false), 1);
             due("setStates(1)", x.setStates(1), 2);
             put(3, "aaa");
