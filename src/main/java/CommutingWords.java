@@ -838,7 +838,7 @@ public final class CommutingWords {
             }
             // A word of fewer letters than there are states tells apart what any word does.
             for (int round = 0; round < states; round++) {
-                for (int state = 0; state < states; state++) {
+                for (int state = 0; state < states && state < MOST_STATES; state++) {
                     for (int other = 0; other < states; other++) {
                         if (stepApart(state, other, letters)) {
                             apart[state] |= 1 << other;
@@ -922,7 +922,7 @@ public final class CommutingWords {
             int free = alphabet.freeOf(letter);
             int needed = 0;
             int layer = 0;
-            for (int place = 0; place < size; place++) {
+            for (int place = 0; place < size && place < PAIR_ROOM; place++) {
                 if ((free >> letterAt[place] & 1) == 0) {
                     needed |= 1 << place;
                     layer = Math.max(layer, layerAt[place] + 1);
@@ -937,7 +937,7 @@ public final class CommutingWords {
 
         int countLayers() {
             int found = 0;
-            for (int place = 0; place < size; place++) {
+            for (int place = 0; place < size && place < PAIR_ROOM; place++) {
                 found = Math.max(found, layerAt[place] + 1);
             }
             return found;
@@ -945,7 +945,7 @@ public final class CommutingWords {
 
         int lettersOfLayer(int layer) {
             int set = 0;
-            for (int place = 0; place < size; place++) {
+            for (int place = 0; place < size && place < PAIR_ROOM; place++) {
                 if (layerAt[place] == layer) {
                     set |= 1 << letterAt[place];
                 }
@@ -998,7 +998,7 @@ public final class CommutingWords {
 
         int lettersOfRest() {
             int set = 0;
-            for (int letter = 0; letter < letters; letter++) {
+            for (int letter = 0; letter < letters && letter < MOST_LETTERS; letter++) {
                 if ((placesOf[letter] & ~taken) != 0) {
                     set |= 1 << letter;
                 }
@@ -1237,7 +1237,7 @@ public final class CommutingWords {
 
         boolean hasConnectedStars(Alphabet alphabet) {
             long connectedSets = alphabet.connectedSets();
-            for (int node = 0; node < size; node++) {
+            for (int node = 0; node < size && node < NODE_ROOM; node++) {
                 long leftSets = setsOf(left[node]);
                 if (kind[node] == STAR && (leftSets & ~connectedSets) != 0) {
                     return false;

@@ -490,6 +490,10 @@ public final class DescriptionBoundaryTest extends Boundaries {
         });
         test("atom = letter | \"1\" | \"(\" sum \")\"", "brackets without a sum, without an end, without a beginning", () -> {
             dueFault("()", 1);
+            dueFault("a()", 2);
+            dueFault("a(*b)", 2);
+            dueFault("a(+b)", 2);
+            dueFault("(a)()", 4);
             dueFault("(", 1);
             dueFault("(a", 2);
             dueFault("a)", 1);

@@ -142,11 +142,28 @@ public final class ExpressionsBoundaryTest extends Boundaries {
             dueMatch("(ba)*", "aaaaaaaabbbbbbb", 0);
             dueMatch("bbbbbbbbaaaaaaaa", "aaaaaaaabbbbbbbb", 1);
         });
+        edge(30, answer, "only one of two ways to read the same letters goes on", () -> {
+            free("ab");
+            dueMatch("abc+bad", "abc", 1);
+            dueMatch("abc+bad", "bad", 1);
+            dueMatch("bac+abd", "abc", 1);
+            dueMatch("bac+abd", "abcd", 0);
+        });
         edge(30, answer, "the last of 80 bytes counts", () -> {
             dueMatch("b".repeat(77) + "+ca", "ca", 1);
             dueMatch("b".repeat(77) + "+ca", "c", 0);
             dueMatch("(b+c)*".repeat(13) + "da", "bcbda", 1);
             dueMatch("(b+c)*".repeat(13) + "da", "bcbd", 0);
+        });
+        edge(30, answer, "the first and the last summand have the same word", () -> {
+            dueMatch("a+" + "b".repeat(75) + "+a", "a", 1);
+            dueMatch("a+" + "b".repeat(75) + "+a", "aa", 0);
+        });
+        edge(30, answer, "two stars are as good as one", () -> {
+            dueMatch("a**", "", 1);
+            dueMatch("a**", A16, 1);
+            dueMatch("(ab**)**", "abbab", 1);
+            dueMatch("(ab**)**", "ba", 0);
         });
         edge(30, answer, "many brackets and many stars", () -> {
             dueMatch(DEEP_A, "a", 1);
@@ -215,6 +232,16 @@ public final class ExpressionsBoundaryTest extends Boundaries {
             dueStars("(acb+bca)*", 1);
             dueStars("(a*b*c)*", 1);
             dueStars("(a*b*)*", 0);
+            dueStars("((a+1)(a+1)b)*", 0);
+            dueStars("((a+c)*b)*", 0);
+            dueStars("((a+c)*cb)*", 1);
+        });
+        edge(31, answer, "the empty word in a product adds nothing", () -> {
+            free("ab");
+            dueStars("(1b)*", 1);
+            dueStars("(b1)*", 1);
+            dueStars("(c1ab)*", 1);
+            dueStars("(a1b)*", 0);
         });
         edge(31, answer, "a text of 80 bytes", () -> {
             free("ab");

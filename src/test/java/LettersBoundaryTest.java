@@ -194,9 +194,11 @@ public final class LettersBoundaryTest extends Boundaries {
         edge(3, "independent: whether they are independent from now on", "what they are already changes nothing", () -> {
             x.setIndependent(0, 1, false);
             due("independent(0)", x.independent(0), 0);
+            due("independent(1)", x.independent(1), 0);
             x.setIndependent(0, 1, true);
             x.setIndependent(0, 1, true);
             due("independent(0)", x.independent(0), 2);
+            due("independent(1)", x.independent(1), 1);
         });
         edge(3, "Returns 1 if they were independent before, 0 if not", "each of the four changes, in both orders", () -> {
             due("setIndependent(0, 1, false)", x.setIndependent(0, 1, false), 0);

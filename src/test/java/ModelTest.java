@@ -3,7 +3,9 @@ import java.util.Random;
 /** Long runs of calls, ordinary and wrong ones, each answer compared with that of the plain model. */
 public final class ModelTest {
     private static final int RUNS = 400;
-    private static final int CALLS = 510;
+    // An object is used for at most 512 calls, and one step can make some hundred of them.
+    private static final int MOST_CALLS = 512;
+    private static final int LAST_STEP = 400;
     private static final String[] EXPRESSIONS = {
         "(ab)*c", "(a+b)*", "(a+b)**", "a*b*c*", "((a+1)(b+1)(c+1))*", "(ab+ba)*(1+c)", "1", "1*", "(1+a)*b",
         "(a*b*)*", "((ab)*c)*", "(abc)*(a+b)", "(a(b+c)*)*", "ab*c*d", "(ad+bc)*", "((a))*(b)", "a+b+c+1",
@@ -14,6 +16,7 @@ public final class ModelTest {
     private static Random random;
     private static int wrong;
     private static int compared;
+    private static int calls;
 
     private static int pick(int least, int most) {
         return least + random.nextInt(most - least + 1);
@@ -46,11 +49,12 @@ public final class ModelTest {
         }
     }
 
-    private static void due(int run, int call, String name, long got, long want) {
+    private static void due(int run, String name, long got, long want) {
         compared++;
+        calls++;
         if (got != want) {
             wrong++;
-            System.out.println("run " + run + " call " + call + ": " + name + " answered " + got + ", due is " + want);
+            System.out.println("run " + run + " call " + calls + ": " + name + " answered " + got + ", due is " + want);
         }
     }
 
@@ -58,17 +62,21 @@ public final class ModelTest {
         CommutingWords x = new CommutingWords();
         PlainModel m = new PlainModel();
         int longest = pick(3, 16);
-        int call = 0;
-        while (call < CALLS) {
+        calls = 0;
+        while (calls < LAST_STEP) {
             keepSmall(x, m);
             int before = wrong;
-            call += step(run, call, x, m, longest);
+            step(run, x, m, longest);
             if (wrong > before) {
                 return;
             }
         }
         keepSmall(x, m);
-        due(run, call, "checksum", x.checksum(), m.checksum());
+        due(run, "checksum", x.checksum(), m.checksum());
+        if (calls > MOST_CALLS) {
+            wrong++;
+            System.out.println("run " + run + " has " + calls + " calls");
+        }
     }
 
     /** The model can't look at words with very many alike ones: both forget them. */
@@ -76,6 +84,7 @@ public final class ModelTest {
         for (int w = 0; w < 6; w++) {
             if (!m.small(m.s.words[w])) {
                 x.clear(w);
+                calls++;
                 m.clear(w);
             }
         }
@@ -96,7 +105,7 @@ public final class ModelTest {
         return least == null || m.small(least);
     }
 
-    private static int step(int run, int call, CommutingWords x, PlainModel m, int longest) {
+    private static void step(int run, CommutingWords x, PlainModel m, int longest) {
         int u = about(5);
         int w = about(5);
         int r = about(5);
@@ -108,143 +117,144 @@ public final class ModelTest {
             case 0:
                 if (random.nextInt(6) == 0) {
                     int k = pick(1, 7);
-                    due(run, call, "setLetters " + k, x.setLetters(k), m.setLetters(k));
+                    due(run, "setLetters " + k, x.setLetters(k), m.setLetters(k));
                 }
-                return 1;
+                break;
             case 1: case 2: case 3:
-                due(run, call, "setIndependent" + args, x.setIndependent(a, b, on), m.setIndependent(a, b, on));
-                return 1;
+                due(run, "setIndependent" + args, x.setIndependent(a, b, on), m.setIndependent(a, b, on));
+                break;
             case 4:
-                due(run, call, "independent" + args, x.independent(a), m.independent(a));
-                return 1;
+                due(run, "independent" + args, x.independent(a), m.independent(a));
+                break;
             case 5:
                 int n = pick(-1, 4);
-                due(run, call, "different " + n, x.different(n), m.different(n));
-                due(run, call, "different 17", x.different(17), m.different(17));
-                return 2;
+                due(run, "different " + n, x.different(n), m.different(n));
+                due(run, "different 17", x.different(17), m.different(17));
+                break;
             case 6: case 7: case 8: case 9: case 10: case 11: case 12:
                 if (m.length(u) < longest) {
-                    due(run, call, "add" + args, x.add(u, a), m.add(u, a));
+                    due(run, "add" + args, x.add(u, a), m.add(u, a));
                 }
-                return 1;
+                break;
             case 13:
-                due(run, call, "clear" + args, x.clear(u), m.clear(u));
-                return 1;
+                due(run, "clear" + args, x.clear(u), m.clear(u));
+                break;
             case 14:
-                due(run, call, "length" + args, x.length(u), m.length(u));
-                return 1;
+                due(run, "length" + args, x.length(u), m.length(u));
+                break;
             case 15:
                 int i = about(15);
-                due(run, call, "letter" + args + i, x.letter(u, i), m.letter(u, i));
-                return 1;
+                due(run, "letter" + args + i, x.letter(u, i), m.letter(u, i));
+                break;
             case 16: case 17:
                 for (int j = -1; j <= 16; j++) {
-                    due(run, call, "normal" + args + j, x.normal(u, j), m.normal(u, j));
+                    due(run, "normal" + args + j, x.normal(u, j), m.normal(u, j));
                 }
-                return 18;
+                break;
             case 18:
-                due(run, call, "layers" + args, x.layers(u), m.layers(u));
+                due(run, "layers" + args, x.layers(u), m.layers(u));
                 for (int j = -1; j <= 8; j++) {
-                    due(run, call, "layer" + args + j, x.layer(u, j), m.layer(u, j));
+                    due(run, "layer" + args + j, x.layer(u, j), m.layer(u, j));
                 }
-                return 11;
+                break;
             case 19:
                 int p = about(7);
-                due(run, call, "projected" + args + p, x.projected(u, a, b, p), m.projected(u, a, b, p));
-                return 1;
+                due(run, "projected" + args + p, x.projected(u, a, b, p), m.projected(u, a, b, p));
+                break;
             case 20:
-                due(run, call, "alikeWords" + args, x.alikeWords(u), m.alikeWords(u));
-                return 1;
+                due(run, "alikeWords" + args, x.alikeWords(u), m.alikeWords(u));
+                break;
             case 21:
-                due(run, call, "alike" + args, x.alike(u, w), m.alike(u, w));
-                return 1;
+                due(run, "alike" + args, x.alike(u, w), m.alike(u, w));
+                break;
             case 22:
                 if (bothSmall(m, u, w)) {
-                    due(run, call, "commute" + args, x.commute(u, w), m.commute(u, w));
+                    due(run, "commute" + args, x.commute(u, w), m.commute(u, w));
                 }
-                return 1;
+                break;
             case 23:
-                due(run, call, "connected" + args, x.connected(u), m.connected(u));
-                return 1;
+                due(run, "connected" + args, x.connected(u), m.connected(u));
+                break;
             case 24:
-                due(run, call, "isPrefix" + args, x.isPrefix(u, w), m.isPrefix(u, w));
-                return 1;
+                due(run, "isPrefix" + args, x.isPrefix(u, w), m.isPrefix(u, w));
+                break;
             case 25:
-                due(run, call, "isFactor" + args, x.isFactor(u, w), m.isFactor(u, w));
-                return 1;
+                due(run, "isFactor" + args, x.isFactor(u, w), m.isFactor(u, w));
+                break;
             case 26:
-                due(run, call, "exponent" + args, x.exponent(u), m.exponent(u));
-                return 1;
+                due(run, "exponent" + args, x.exponent(u), m.exponent(u));
+                break;
             case 27: case 28:
                 if (bothSmall(m, u, w)) {
-                    due(run, call, "product" + args, x.product(u, w, r), m.product(u, w, r));
+                    due(run, "product" + args, x.product(u, w, r), m.product(u, w, r));
                 }
-                return 1;
+                break;
             case 29:
-                due(run, call, "quotient" + args, x.quotient(u, w, r), m.quotient(u, w, r));
-                return 1;
+                due(run, "quotient" + args, x.quotient(u, w, r), m.quotient(u, w, r));
+                break;
             case 30:
-                due(run, call, "commonPrefix" + args, x.commonPrefix(u, w, r), m.commonPrefix(u, w, r));
-                return 1;
+                due(run, "commonPrefix" + args, x.commonPrefix(u, w, r), m.commonPrefix(u, w, r));
+                break;
             case 31:
                 if (multipleSmall(m, u, w)) {
-                    due(run, call, "commonMultiple" + args, x.commonMultiple(u, w, r), m.commonMultiple(u, w, r));
+                    due(run, "commonMultiple" + args, x.commonMultiple(u, w, r), m.commonMultiple(u, w, r));
                 }
-                return 1;
+                break;
             case 32:
-                due(run, call, "root" + args, x.root(u, r), m.root(u, r));
-                return 1;
+                due(run, "root" + args, x.root(u, r), m.root(u, r));
+                break;
             case 33:
-                due(run, call, "reverse" + args, x.reverse(u, r), m.reverse(u, r));
-                return 1;
+                due(run, "reverse" + args, x.reverse(u, r), m.reverse(u, r));
+                break;
             case 34: case 35:
-                return write(run, call, x, m);
+                write(run, x, m);
+                break;
             case 36:
-                due(run, call, "matches" + args, x.matches(u), m.matches(u));
-                return 1;
+                due(run, "matches" + args, x.matches(u), m.matches(u));
+                break;
             case 37:
-                due(run, call, "starConnected", x.starConnected(), m.starConnected());
-                due(run, call, "shortest", x.shortest(), m.shortest());
-                return 2;
+                due(run, "starConnected", x.starConnected(), m.starConnected());
+                due(run, "shortest", x.shortest(), m.shortest());
+                break;
             case 38:
                 int states = random.nextInt(3) == 0 ? pick(0, 7) : m.s.states;
                 if (random.nextInt(4) == 0) {
-                    due(run, call, "setStates " + states, x.setStates(states), m.setStates(states));
+                    due(run, "setStates " + states, x.setStates(states), m.setStates(states));
                 }
-                return 1;
+                break;
             case 39: case 40:
                 int q = about(m.s.states - 1);
                 int to = about(m.s.states - 1);
-                due(run, call, "setArrow" + q + args + to, x.setArrow(q, a, to), m.setArrow(q, a, to));
-                return 1;
+                due(run, "setArrow" + q + args + to, x.setArrow(q, a, to), m.setArrow(q, a, to));
+                break;
             case 41:
                 int state = about(m.s.states - 1);
-                due(run, call, "setAccepting" + state, x.setAccepting(state, on), m.setAccepting(state, on));
-                return 1;
+                due(run, "setAccepting" + state, x.setAccepting(state, on), m.setAccepting(state, on));
+                break;
             case 42:
-                due(run, call, "acceptedAlike" + args, x.acceptedAlike(u), m.acceptedAlike(u));
-                return 1;
+                due(run, "acceptedAlike" + args, x.acceptedAlike(u), m.acceptedAlike(u));
+                break;
             case 43:
-                due(run, call, "brokenDiamond", x.brokenDiamond(), m.brokenDiamond());
-                due(run, call, "closed", x.closed(), m.closed());
-                return 2;
+                due(run, "brokenDiamond", x.brokenDiamond(), m.brokenDiamond());
+                due(run, "closed", x.closed(), m.closed());
+                break;
             case 44:
                 int slot = pick(-1, 2);
                 if (on) {
-                    due(run, call, "save " + slot, x.save(slot), m.save(slot));
+                    due(run, "save " + slot, x.save(slot), m.save(slot));
                 } else if (random.nextInt(3) == 0) {
-                    due(run, call, "restore " + slot, x.restore(slot), m.restore(slot));
+                    due(run, "restore " + slot, x.restore(slot), m.restore(slot));
                 }
-                return 1;
+                break;
             default:
-                due(run, call, "checksum", x.checksum(), m.checksum());
-                return 1;
+                due(run, "checksum", x.checksum(), m.checksum());
+                break;
         }
     }
 
-    private static int write(int run, int call, CommutingWords x, PlainModel m) {
+    private static void write(int run, CommutingWords x, PlainModel m) {
         if (random.nextInt(8) > 0) {
-            due(run, call, "clearText", x.clearText(), m.clearText());
+            due(run, "clearText", x.clearText(), m.clearText());
         }
         String text = random.nextInt(3) == 0
             ? EXPRESSIONS[random.nextInt(EXPRESSIONS.length)] : grown(pick(0, 4), m.s.letters);
@@ -252,16 +262,15 @@ public final class ModelTest {
             text = noise(pick(1, 12));
         }
         for (char c : text.toCharArray()) {
-            due(run, call, "append " + c, x.append(c), m.append(c));
+            due(run, "append " + c, x.append(c), m.append(c));
         }
-        due(run, call, "append about", x.append(-1), m.append(-1));
-        due(run, call, "faultPosition of " + text, x.faultPosition(), m.faultPosition());
-        due(run, call, "starConnected of " + text, x.starConnected(), m.starConnected());
-        due(run, call, "shortest of " + text, x.shortest(), m.shortest());
+        due(run, "append about", x.append(-1), m.append(-1));
+        due(run, "faultPosition of " + text, x.faultPosition(), m.faultPosition());
+        due(run, "starConnected of " + text, x.starConnected(), m.starConnected());
+        due(run, "shortest of " + text, x.shortest(), m.shortest());
         for (int w = 0; w < 6; w++) {
-            due(run, call, m.s.words[w] + " matches " + text, x.matches(w), m.matches(w));
+            due(run, m.s.words[w] + " matches " + text, x.matches(w), m.matches(w));
         }
-        return 12 + text.length();
     }
 
     private static String noise(int length) {

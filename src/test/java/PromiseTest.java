@@ -502,12 +502,16 @@ public final class PromiseTest {
     }
 
     private static void dueFault(String text, int want) {
+        fresh(29, 3, "");
+        dueFaultNow(text, want);
+    }
+
+    private static void dueFaultNow(String text, int want) {
         write(text);
         due("faultPosition of " + text, x.faultPosition(), want);
     }
 
     private static void faults() {
-        fresh(29, 3, "");
         dueFault("", 0);
         dueFault("a", NONE);
         dueFault("abc", NONE);
@@ -537,18 +541,18 @@ public final class PromiseTest {
         dueFault("c".repeat(79) + ")", 79);
         dueFault("a" + "*".repeat(79), NONE);
         x.setLetters(6);
-        dueFault("abcdef", NONE);
-        dueFault("abcdefg", 6);
+        dueFaultNow("abcdef", NONE);
+        dueFaultNow("abcdefg", 6);
     }
 
     private static void dueMatch(String text, String word, int want) {
+        fresh(30, 3, "ab");
         write(text);
         put(0, word);
         due(word + " matches " + text, x.matches(0), want);
     }
 
     private static void matching() {
-        fresh(30, 3, "ab");
         dueMatch("(ab)*c", "bbaac", 1);
         dueMatch("(ab)*c", "bbaca", 0);
         dueMatch("(ab)*c", "abbc", 0);

@@ -314,6 +314,41 @@ public final class RecognisersBoundaryTest extends Boundaries {
             lead("0c5");
             due("closed()", x.closed(), 0);
         });
+        edge(38, answer, "the first letter alone, or the last letter alone, leads to the broken diamond", () -> {
+            free("bc");
+            x.setStates(4);
+            lead("0a1 1b2 2c3");
+            accept(3);
+            due("closed()", x.closed(), 0);
+            lead("0a0");
+            due("closed()", x.closed(), 1);
+            lead("0d1");
+            due("closed()", x.closed(), 0);
+        });
+        edge(38, answer, "the first letter alone, or the last letter alone, tells the ends apart", () -> {
+            free("bc");
+            x.setStates(5);
+            lead("0b1 1c2 0c1 1b3 2a4");
+            accept(4);
+            due("closed()", x.closed(), 0);
+            lead("2a2");
+            due("closed()", x.closed(), 1);
+            lead("2d4");
+            due("closed()", x.closed(), 0);
+        });
+        edge(38, answer, "one end is state 0, told apart by more letters, in either order of the two", () -> {
+            free("ab");
+            x.setStates(3);
+            lead("0a1 1b0 0b2 2a2 0c0");
+            due("closed()", x.closed(), 1);
+            lead("0d1");
+            accept(1);
+            due("closed()", x.closed(), 0);
+            x.setStates(3);
+            lead("0b1 1a0 0a2 2b2 0d1");
+            accept(1);
+            due("closed()", x.closed(), 0);
+        });
         edge(38, answer, "a recogniser that only counts the letters is", () -> {
             letters(2, "ab");
             x.setStates(2);

@@ -357,12 +357,18 @@ public final class ResultsBoundaryTest extends Boundaries {
             dueWord(2, "c");
         });
         edge(24, "NOT_POSSIBLE if there is no common multiple", "only the last letters are dependent", () -> {
-            letters(6, "ac ad bc");
+            free("ac ad bc");
             put(0, "ab");
             put(1, "cd");
             due("commonMultiple(0, 1, 2)", x.commonMultiple(0, 1, 2), NOT_POSSIBLE);
             free("bd");
             due("commonMultiple(0, 1, 2)", x.commonMultiple(0, 1, 2), 4);
+        });
+        edge(24, "NOT_POSSIBLE if there is no common multiple", "only the first letters are dependent", () -> {
+            free("ad bc bd");
+            put(0, "ab");
+            put(1, "cd");
+            due("commonMultiple(0, 1, 2)", x.commonMultiple(0, 1, 2), NOT_POSSIBLE);
         });
         edge(24, "FULL if it would have more than 16 letters", "17 letters are too many, 16 are not", () -> {
             free("ab");

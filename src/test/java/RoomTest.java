@@ -1,10 +1,11 @@
 import java.lang.management.ManagementFactory;
 
-/** The dearest calls, 512 of each on one object, with what they make and how long they take. */
+/** The dearest calls, as many of each as an object is used for once it has been filled, and what they make. */
 public final class RoomTest {
     // 7.3 million fields and elements of at most 8 bytes each, with some room for headers left out.
     private static final long BYTES_OF_A_RUN = 7_300_000L * 4;
-    private static final int CALLS = 511;
+    // Filling an object takes some 240 of its 512 calls.
+    private static final int CALLS = 270;
 
     private static int wrong;
 

@@ -464,6 +464,15 @@ public final class WordsBoundaryTest extends Boundaries {
             x.setIndependent(2, 3, true);
             due("connected(0)", x.connected(0), 0);
         });
+        edge(17, "Returns 1 if it is connected, 0 if not", "it does not matter how often a letter occurs", () -> {
+            free("ac");
+            put(0, "a".repeat(14) + "cc");
+            put(1, "a".repeat(15) + "c");
+            put(2, "aabbcc");
+            due("connected(0)", x.connected(0), 0);
+            due("connected(1)", x.connected(1), 0);
+            due("connected(2)", x.connected(2), 1);
+        });
         edge(17, "Returns 1 if it is connected, 0 if not", "letters that do not occur connect nothing", () -> {
             free("ac");
             put(0, "ac");
