@@ -336,17 +336,17 @@ public final class RecognisersBoundaryTest extends Boundaries {
             lead("2d4");
             due("closed()", x.closed(), 0);
         });
-        edge(38, answer, "one end is state 0, told apart by more letters, in either order of the two", () -> {
+        edge(38, answer, "one end is state 0, which only a further letter tells apart, in either order of the two", () -> {
             free("ab");
-            x.setStates(3);
-            lead("0a1 1b0 0b2 2a2 0c0");
+            x.setStates(6);
+            lead("0c3 3a4 4b1 3b5 5a0 1d2");
             due("closed()", x.closed(), 1);
-            lead("0d1");
-            accept(1);
+            accept(2);
+            due("brokenDiamond()", x.brokenDiamond(), 301);
             due("closed()", x.closed(), 0);
-            x.setStates(3);
-            lead("0b1 1a0 0a2 2b2 0d1");
-            accept(1);
+            x.setStates(6);
+            lead("0c3 3b4 4a1 3a5 5b0 1d2");
+            accept(2);
             due("closed()", x.closed(), 0);
         });
         edge(38, answer, "a recogniser that only counts the letters is", () -> {
