@@ -27,7 +27,8 @@ public final class DescriptionBoundaryTest extends Boundaries {
     }
 
     private static void calls() {
-        edge("What it is", "An object is used for at most 512 calls after it has been made", "the 512th call still answers", () -> {
+        edge("What it is", "An object is used for at most 512 calls after it has been made",
+            "the 512th call still answers", () -> {
             x.setIndependent(0, 1, true);
             for (int call = 2; call <= 17; call++) {
                 x.add(0, call % 2);
@@ -37,7 +38,8 @@ public final class DescriptionBoundaryTest extends Boundaries {
             }
             due("call 512, alikeWords(0)", x.alikeWords(0), 12870);
         });
-        edge("What it is", "they have the same normal forms, layers and projections", "full words, exchanged as far as can be", () -> {
+        edge("What it is", "they have the same normal forms, layers and projections",
+            "full words, exchanged as far as can be", () -> {
             free("ab");
             put(0, "cd" + "aaaaaaabbbbbbb");
             put(1, "cd" + "bbbbbbbaaaaaaa");
@@ -133,7 +135,8 @@ public final class DescriptionBoundaryTest extends Boundaries {
             put(1, B8A8);
             due("alike(0, 1)", x.alike(0, 1), 1);
         });
-        test("two letters that are independent and stand next to each other", "a dependent letter between them parts them", () -> {
+        test("two letters that are independent and stand next to each other",
+            "a dependent letter between them parts them", () -> {
             free("ab");
             put(0, "acb");
             put(1, "bca");
@@ -147,7 +150,8 @@ public final class DescriptionBoundaryTest extends Boundaries {
             put(1, "ba");
             due("alike(0, 1)", x.alike(0, 1), 0);
         });
-        test("Below, a word stands for all words that are alike to it", "two full words that are alike give the same answers", () -> {
+        test("Below, a word stands for all words that are alike to it",
+            "two full words that are alike give the same answers", () -> {
             free("ab");
             put(0, A8B8);
             put(1, B8A8);
@@ -208,7 +212,8 @@ public final class DescriptionBoundaryTest extends Boundaries {
                 due("layers(0)", x.layers(0), 4);
                 due("layer(0, 3)", x.layer(0, 3), 4);
             });
-        test("The projection of a word to two letters is what remains of it without all other letters", "all of it, and nothing", () -> {
+        test("The projection of a word to two letters is what remains of it without all other letters",
+            "all of it, and nothing", () -> {
             put(0, A8B8);
             for (int i = 0; i < 16; i++) {
                 due("projected(0, 1, 0, " + i + ")", x.projected(0, 1, 0, i), i / 8);
@@ -236,14 +241,16 @@ public final class DescriptionBoundaryTest extends Boundaries {
             x.product(1, 4, 5);
             dueWord(5, "");
         });
-        test("A word u is a prefix of a word w if w is alike to a product of u and some word", "this word can be empty, and so can u", () -> {
+        test("A word u is a prefix of a word w if w is alike to a product of u and some word",
+            "this word can be empty, and so can u", () -> {
             put(0, A16);
             due("isPrefix(0, 0)", x.isPrefix(0, 0), 1);
             due("isPrefix(1, 0)", x.isPrefix(1, 0), 1);
             due("isPrefix(1, 1)", x.isPrefix(1, 1), 1);
             due("isPrefix(0, 1)", x.isPrefix(0, 1), 0);
         });
-        test("this word, which is determined up to likeness, is the quotient", "of a word by itself, and by the empty one", () -> {
+        test("this word, which is determined up to likeness, is the quotient",
+            "of a word by itself, and by the empty one", () -> {
             put(0, A16);
             due("quotient(0, 0, 2)", x.quotient(0, 0, 2), 0);
             due("quotient(1, 0, 2)", x.quotient(1, 0, 2), 16);
@@ -325,7 +332,8 @@ public final class DescriptionBoundaryTest extends Boundaries {
             due("connected(0)", x.connected(0), 1);
             due("connected(1)", x.connected(1), 1);
         });
-        test("such that each letter of the one is independent of each letter of the other one", "one dependent pair is enough to connect them", () -> {
+        test("such that each letter of the one is independent of each letter of the other one",
+            "one dependent pair is enough to connect them", () -> {
             letters(6, ALL_SIX);
             x.setIndependent(0, 5, false);
             put(0, "af");
@@ -354,7 +362,8 @@ public final class DescriptionBoundaryTest extends Boundaries {
             due("exponent(0)", x.exponent(0), NOT_POSSIBLE);
             due("root(0, 1)", x.root(0, 1), NOT_POSSIBLE);
         });
-        test("The exponent of a word that is not empty is the greatest e", "1 for a letter, 16 for sixteen, not a smaller divisor", () -> {
+        test("The exponent of a word that is not empty is the greatest e",
+            "1 for a letter, 16 for sixteen, not a smaller divisor", () -> {
             put(0, "a");
             put(1, A16);
             put(2, "ab".repeat(6));
@@ -368,7 +377,8 @@ public final class DescriptionBoundaryTest extends Boundaries {
             due("root(0, 1)", x.root(0, 1), 16);
             due("alike(0, 1)", x.alike(0, 1), 1);
         });
-        test("it is alike to the product of e copies of a word, which is the root", "equal shares of letters are not enough", () -> {
+        test("it is alike to the product of e copies of a word, which is the root",
+            "equal shares of letters are not enough", () -> {
             free("ac");
             put(0, "abcbac");
             due("exponent(0)", x.exponent(0), 1);
@@ -478,7 +488,8 @@ public final class DescriptionBoundaryTest extends Boundaries {
                 due("faultPosition() of byte " + sign, x.faultPosition(), want);
             }
         });
-        test("atom = letter | \"1\" | \"(\" sum \")\"", "of all bytes behind a letter, only those of the grammar follow it", () -> {
+        test("atom = letter | \"1\" | \"(\" sum \")\"",
+            "of all bytes behind a letter, only those of the grammar follow it", () -> {
             for (int sign = 0; sign <= 127; sign++) {
                 x = new CommutingWords();
                 x.append('a');
@@ -558,7 +569,8 @@ public final class DescriptionBoundaryTest extends Boundaries {
             dueMatch("(a+b)*", "abba", 1);
             dueMatch("(ab)*", "aba", 0);
         });
-        test("these words can be longer than 16 letters", "such a word is the shortest one, no word of the object matches it", () -> {
+        test("these words can be longer than 16 letters",
+            "such a word is the shortest one, no word of the object matches it", () -> {
             dueMatch("a".repeat(17), A16, 0);
             due("shortest()", x.shortest(), 17);
             dueMatch("a".repeat(17) + "+" + A16, A16, 1);
@@ -579,7 +591,8 @@ public final class DescriptionBoundaryTest extends Boundaries {
                 dueFault("a" + (char) ('a' + k), 1);
             }
         });
-        test("The text is read as an expression by the letters that there are", "by those of now, not of when it was written", () -> {
+        test("The text is read as an expression by the letters that there are",
+            "by those of now, not of when it was written", () -> {
             x.setLetters(2);
             dueFault("af", 1);
             x.setLetters(6);
@@ -587,7 +600,8 @@ public final class DescriptionBoundaryTest extends Boundaries {
             x.setLetters(5);
             due("faultPosition()", x.faultPosition(), 1);
         });
-        test("the index, counted from 0, of the first byte with which the text does not follow the grammar", "0, 79 and the first of two", () -> {
+        test("the index, counted from 0, of the first byte with which the text does not follow the grammar",
+            "0, 79 and the first of two", () -> {
             dueFault("+", 0);
             dueFault("a".repeat(79) + ")", 79);
             dueFault("a))", 1);
@@ -613,14 +627,16 @@ public final class DescriptionBoundaryTest extends Boundaries {
     }
 
     private static void matchesAndStars() {
-        test("A word matches the expression if some word that is alike to it is a word of the expression.", "only one of 12870 alike words is", () -> {
+        test("A word matches the expression if some word that is alike to it is a word of the expression.",
+            "only one of 12870 alike words is", () -> {
             free("ab");
             dueMatch(B8A8, A8B8, 1);
             dueMatch("abbbbbbbaaaaaaab", A8B8, 1);
             x.setIndependent(0, 1, false);
             dueMatch(B8A8, A8B8, 0);
         });
-        test("A word matches the expression if some word that is alike to it is a word of the expression.", "the empty word is alike to itself alone", () -> {
+        test("A word matches the expression if some word that is alike to it is a word of the expression.",
+            "the empty word is alike to itself alone", () -> {
             free("ab");
             dueMatch("1", "", 1);
             dueMatch("ab", "", 0);
@@ -672,7 +688,8 @@ public final class DescriptionBoundaryTest extends Boundaries {
             x.setAccepting(0, true);
             due("acceptedAlike(0)", x.acceptedAlike(0), 1);
         });
-        test("For each state and each letter there is an arrow to a state, at first to the same state.", "all 36 arrows of six states and six letters", () -> {
+        test("For each state and each letter there is an arrow to a state, at first to the same state.",
+            "all 36 arrows of six states and six letters", () -> {
             x.setLetters(6);
             x.setStates(6);
             for (int arrow = 0; arrow < 36; arrow++) {
@@ -688,7 +705,8 @@ public final class DescriptionBoundaryTest extends Boundaries {
                 due("setAccepting(" + state + ", false)", x.setAccepting(state, false), 0);
             }
         });
-        test("A word is accepted if the arrows of its letters lead from state 0 to an accepting state.", "only the end counts, not what lies between", () -> {
+        test("A word is accepted if the arrows of its letters lead from state 0 to an accepting state.",
+            "only the end counts, not what lies between", () -> {
             x.setStates(3);
             lead("0a1 1a2");
             x.setAccepting(1, true);
@@ -717,14 +735,16 @@ public final class DescriptionBoundaryTest extends Boundaries {
                 lead("2a2");
                 due("brokenDiamond()", x.brokenDiamond(), 1);
             });
-        test("closed if of two words that are alike, of whatever length, either both are accepted or none", "two letters are enough", () -> {
+        test("closed if of two words that are alike, of whatever length, either both are accepted or none",
+            "two letters are enough", () -> {
             free("ab");
             x.setStates(3);
             lead("0a1 1b2");
             x.setAccepting(2, true);
             due("closed()", x.closed(), 0);
         });
-        test("closed if of two words that are alike, of whatever length, either both are accepted or none", "ten letters are needed", () -> {
+        test("closed if of two words that are alike, of whatever length, either both are accepted or none",
+            "ten letters are needed", () -> {
             letters(2, "ab");
             x.setStates(6);
             lead("0a1 0b1 1a2 1b2 2a3 2b3 3a4 3b4 4a5 4b5 5b0");

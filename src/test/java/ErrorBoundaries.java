@@ -28,7 +28,8 @@ final class ErrorBoundaries extends Boundaries {
     }
 
     private static void constants() {
-        edge("Description", "Errors are reported by negative constants.", "each of them is negative, and no two are the same", () -> {
+        edge("Description", "Errors are reported by negative constants.",
+            "each of them is negative, and no two are the same", () -> {
             int[] all = {CommutingWords.BAD_INDEX, CommutingWords.BAD_VALUE, CommutingWords.NOT_POSSIBLE,
                 CommutingWords.FULL, CommutingWords.NONE};
             for (int i = 0; i < all.length; i++) {
@@ -52,7 +53,8 @@ final class ErrorBoundaries extends Boundaries {
             due("append(128)", x.append(128), CommutingWords.BAD_VALUE);
             due("setStates(7)", x.setStates(7), CommutingWords.BAD_VALUE);
         });
-        edge("Description", "NOT_POSSIBLE = -3: The call is not possible now.", "possible as soon as things are otherwise", () -> {
+        edge("Description", "NOT_POSSIBLE = -3: The call is not possible now.",
+            "possible as soon as things are otherwise", () -> {
             due("NOT_POSSIBLE", CommutingWords.NOT_POSSIBLE, -3);
             due("exponent(0)", x.exponent(0), CommutingWords.NOT_POSSIBLE);
             put(0, "a");
@@ -71,7 +73,8 @@ final class ErrorBoundaries extends Boundaries {
             due("add(0, 0)", x.add(0, 0), CommutingWords.FULL);
             due("append('a')", x.append('a'), CommutingWords.FULL);
         });
-        edge("Description", "NONE = -5: There is no such thing; not an error.", "no letter, no layer, no fault, no broken diamond", () -> {
+        edge("Description", "NONE = -5: There is no such thing; not an error.",
+            "no letter, no layer, no fault, no broken diamond", () -> {
             due("NONE", CommutingWords.NONE, -5);
             due("letter(0, 0)", x.letter(0, 0), CommutingWords.NONE);
             due("layer(0, 0)", x.layer(0, 0), CommutingWords.NONE);

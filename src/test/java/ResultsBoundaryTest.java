@@ -171,7 +171,8 @@ public final class ResultsBoundaryTest extends Boundaries {
             due("quotient(0, 1, 2)", x.quotient(0, 1, 2), NOT_POSSIBLE);
             dueWord(2, "c");
         });
-        edge(22, "NOT_POSSIBLE if the first one is no prefix of the second one", "one letter too long, or the last letter differs", () -> {
+        edge(22, "NOT_POSSIBLE if the first one is no prefix of the second one",
+            "one letter too long, or the last letter differs", () -> {
             put(0, A16);
             put(1, "a".repeat(15));
             due("quotient(0, 1, 2)", x.quotient(0, 1, 2), NOT_POSSIBLE);
@@ -262,8 +263,10 @@ public final class ResultsBoundaryTest extends Boundaries {
             due("commonPrefix(0, 1, 2)", x.commonPrefix(0, 1, 2), 0);
             due("commonPrefix(0, 0, 2)", x.commonPrefix(0, 0, 2), 16);
         });
-        edge(23, "BAD_INDEX", "the first one is no word", () -> dueNoWords("commonPrefix(?, 0, 1)", w -> x.commonPrefix(w, 0, 1)));
-        edge(23, "BAD_INDEX", "the second one is no word", () -> dueNoWords("commonPrefix(0, ?, 1)", w -> x.commonPrefix(0, w, 1)));
+        edge(23, "BAD_INDEX", "the first one is no word", () ->
+            dueNoWords("commonPrefix(?, 0, 1)", w -> x.commonPrefix(w, 0, 1)));
+        edge(23, "BAD_INDEX", "the second one is no word", () ->
+            dueNoWords("commonPrefix(0, ?, 1)", w -> x.commonPrefix(0, w, 1)));
         edge(23, "BAD_INDEX", "the result is no word", () -> dueNoWords("commonPrefix(0, 1, ?)", w -> x.commonPrefix(0, 1, w)));
     }
 
@@ -343,9 +346,12 @@ public final class ResultsBoundaryTest extends Boundaries {
             due("commonMultiple(0, 1, 2)", x.commonMultiple(0, 1, 2), 16);
             dueWord(2, A8 + B8);
         });
-        edge(24, "BAD_INDEX", "the first one is no word", () -> dueNoWords("commonMultiple(?, 0, 1)", w -> x.commonMultiple(w, 0, 1)));
-        edge(24, "BAD_INDEX", "the second one is no word", () -> dueNoWords("commonMultiple(0, ?, 1)", w -> x.commonMultiple(0, w, 1)));
-        edge(24, "BAD_INDEX", "the result is no word", () -> dueNoWords("commonMultiple(0, 1, ?)", w -> x.commonMultiple(0, 1, w)));
+        edge(24, "BAD_INDEX", "the first one is no word", () ->
+            dueNoWords("commonMultiple(?, 0, 1)", w -> x.commonMultiple(w, 0, 1)));
+        edge(24, "BAD_INDEX", "the second one is no word", () ->
+            dueNoWords("commonMultiple(0, ?, 1)", w -> x.commonMultiple(0, w, 1)));
+        edge(24, "BAD_INDEX", "the result is no word", () ->
+            dueNoWords("commonMultiple(0, 1, ?)", w -> x.commonMultiple(0, 1, w)));
         edge(24, "NOT_POSSIBLE if there is no common multiple", "two dependent letters, also after a common prefix", () -> {
             put(0, "a");
             put(1, "b");

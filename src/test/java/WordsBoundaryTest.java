@@ -221,7 +221,8 @@ public final class WordsBoundaryTest extends Boundaries {
             put(0, "fedcba");
             due("layers(0)", x.layers(0), 1);
         });
-        edge(11, "Returns the number of its layers", "sixteen, if one letter stands 16 times or no letters are independent", () -> {
+        edge(11, "Returns the number of its layers",
+            "sixteen, if one letter stands 16 times or no letters are independent", () -> {
             put(0, A16);
             put(1, "abcd".repeat(4));
             due("layers(0)", x.layers(0), 16);
@@ -247,7 +248,8 @@ public final class WordsBoundaryTest extends Boundaries {
             put(0, "fedcba");
             due("layer(0, 0)", x.layer(0, 0), 63);
         });
-        edge(12, "Returns the set of its letters, bit i for the letter i", "the last letter of the word is in the first layer", () -> {
+        edge(12, "Returns the set of its letters, bit i for the letter i",
+            "the last letter of the word is in the first layer", () -> {
             free("ad");
             put(0, "a".repeat(15) + "d");
             due("layer(0, 0)", x.layer(0, 0), 9);
@@ -293,7 +295,8 @@ public final class WordsBoundaryTest extends Boundaries {
             due("projected(0, 1, 0, 0)", x.projected(0, 1, 0, 0), 0);
             due("projected(0, 1, 3, 1)", x.projected(0, 1, 3, 1), 3);
         });
-        edge(13, "index: the index of a letter of the projection to both, counted from 0", "the first and the last of sixteen", () -> {
+        edge(13, "index: the index of a letter of the projection to both, counted from 0",
+            "the first and the last of sixteen", () -> {
             put(0, "b" + "a".repeat(14) + "b");
             due("projected(0, 0, 1, 0)", x.projected(0, 0, 1, 0), 1);
             due("projected(0, 0, 1, 1)", x.projected(0, 0, 1, 1), 0);
